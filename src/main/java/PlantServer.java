@@ -252,9 +252,12 @@ public final class PlantServer {
     // An equal priority does not overtake, so that the lower number comes first.
     private void putInTurn(Subscription opened, int before) {
         int place = before;
-        while (place > 0 && inTurn[place - 1].priority < opened.priority) {
-            inTurn[place] = inTurn[place - 1];
-            place--;
+        for (; place > 0; place--) {
+            Subscription earlier = inTurn[place - 1];
+            if (earlier == null || earlier.priority >= opened.priority) {
+                break;
+            }
+            inTurn[place] = earlier;
         }
         inTurn[place] = opened;
     }
@@ -262,7 +265,7 @@ public final class PlantServer {
     private void sampleItems() {
         for (int i = 0; i < itemCount; i++) {
             Item item = items[i];
-            if (item.owner.isLive && item.timer.countTick()) {
+            if (item != null && item.owner.isLive && item.timer.countTick()) {
                 item.sample(nodes[item.node]);
             }
         }
@@ -272,7 +275,7 @@ public final class PlantServer {
         int sent = 0;
         for (int i = 0; i < subscriptionCount; i++) {
             Subscription next = inTurn[i];
-            if (next.isLive && next.timer.countTick() && publishes(next)) {
+            if (next != null && next.isLive && next.timer.countTick() && publishes(next)) {
                 sent++;
             }
         }
@@ -334,7 +337,7 @@ public final class PlantServer {
                 append(value, false);
                 marks[0] = true;
             } else {
-                dropLast();
+                count = size - 1;
                 append(value, true);
             }
         }
@@ -344,7 +347,9 @@ public final class PlantServer {
                 values[i - 1] = values[i];
                 marks[i - 1] = marks[i];
             }
-            dropLast();
+            if (count > 0) {
+                count--;
+            }
         }
 
         private void append(int value, boolean mark) {
@@ -352,12 +357,6 @@ public final class PlantServer {
                 values[count] = value;
                 marks[count] = mark;
                 count++;
-            }
-        }
-
-        private void dropLast() {
-            if (count > 0) {
-                count--;
             }
         }
     }
@@ -475,9 +474,6 @@ public final class PlantServer {
             this.life = life;
             this.priority = priority;
             this.most = most;
-            for (int i = 0; i < MOST_KEPT; i++) {
-                messages[i] = new Message();
-            }
         }
 
         void take(Item item) {
@@ -494,7 +490,7 @@ public final class PlantServer {
             int filled = 0;
             for (int i = 0; i < itemCount; i++) {
                 Item item = items[i];
-                if (item.queue.count > 0) {
+                if (item != null && item.queue.count > 0) {
                     filled |= 1 << item.number;
                     if (item.reports) {
                         reporting |= 1 << item.number;
@@ -533,7 +529,8 @@ public final class PlantServer {
 
         int placeOf(int message) {
             for (int i = 0; i < keptCount; i++) {
-                if (messages[i].number == message) {
+                Message kept = messages[i];
+                if (kept != null && kept.number == message) {
                     return i;
                 }
             }
@@ -561,7 +558,7 @@ public final class PlantServer {
             Message message = nextMessage();
             for (int i = 0; i < itemCount; i++) {
                 Item item = items[i];
-                if ((told & 1 << item.number) != 0) {
+                if (item != null && (told & 1 << item.number) != 0) {
                     item.giveTo(message, most);
                 }
             }
@@ -572,6 +569,10 @@ public final class PlantServer {
                 forget(0);
             }
             Message next = messages[keptCount];
+            if (next == null) {
+                next = new Message();
+                messages[keptCount] = next;
+            }
             keptCount++;
             lastNumber++;
             next.begin(lastNumber);

@@ -174,6 +174,10 @@ final class ItemsTest {
         CHECK.due("9: another one does not trigger it", toldWith(server, 2, 1), "1");
         server.link(1, 2, true);
         CHECK.due("9: two trigger it, it is told once", toldWith(server, 1, 3), "123");
+        server.setReporting(0, false);
+        server.link(1, 0, true);
+        server.link(1, 2, false);
+        CHECK.due("9: each triggers another one", toldWith(server, 0, 1, 2, 3), "0123");
     }
 
     private static void triggersGoOneStep() {
