@@ -18,6 +18,12 @@ final class ItemsTest {
         aTriggerNeedsReportingAndASample();
         aTriggeredItemNeedsASample();
         unlinking();
+        refusedAddsWhenFull();
+        everySizeAndBand();
+        twoThatTriggerEachOther();
+        aTriggeredOneAddsToItsOwn();
+        itemsOfAnEndedLife();
+        linksOfGoneItems();
         CHECK.end();
     }
 
@@ -223,5 +229,90 @@ final class ItemsTest {
         CHECK.due("7: linked", toldWith(server, 0, 1), "01");
         server.link(0, 1, false);
         CHECK.due("7: not any more", toldWith(server, 0, 1), "0");
+    }
+
+    private static void refusedAddsWhenFull() {
+        PlantServer server = opened();
+        server.open(1, 10, 30, 0, 1);
+        for (int i = 0; i < 16; i++) {
+            server.add(1, 0, 1, 1, true, 0);
+        }
+        CHECK.refuses("5: a seventeenth one", server, STATE, () -> server.add(0, 9, 20, 4, false, 1000));
+        server.close(0);
+        CHECK.refuses("5: a closed one is looked at first", server, BOUNDS, () -> server.add(0, 0, 0, 0, true, -1));
+        CHECK.due("4: all are of the other one", server.close(1), 16);
+    }
+
+    private static void everySizeAndBand() {
+        PlantServer server = opened();
+        int next = 0;
+        for (int every : new int[] {1, 2, 19, 20}) {
+            CHECK.due("5: every " + every, server.add(0, 0, every, 1, true, 0), next++);
+        }
+        for (int size : new int[] {1, 2, 3, 4}) {
+            CHECK.due("5: size " + size, server.add(0, 0, 1, size, true, 0), next++);
+        }
+        for (int band : new int[] {0, 1, 999, 1000}) {
+            CHECK.due("5: band " + band, server.add(0, 0, 1, 1, true, band), next++);
+        }
+        for (int node : new int[] {0, 1, 8, 9}) {
+            CHECK.due("5: node " + node, server.add(0, node, 1, 1, true, 0), next++);
+        }
+        for (int item = 0; item < next; item++) {
+            CHECK.due("19: each has its first sample", server.waiting(item), 1);
+        }
+    }
+
+    private static void twoThatTriggerEachOther() {
+        PlantServer server = withFourItems();
+        server.link(0, 1, true);
+        server.link(1, 0, true);
+        server.setReporting(0, false);
+        server.setReporting(1, false);
+        CHECK.due("9: none of them reports", toldWith(server, 0, 1), "none");
+        server.setReporting(1, true);
+        CHECK.due("9: one of them does", toldWith(server), "01");
+        server.setReporting(0, true);
+        CHECK.due("9: both do, each is told once", toldWith(server, 0, 1), "01");
+    }
+
+    private static void aTriggeredOneAddsToItsOwn() {
+        PlantServer server = withFourItems();
+        server.setReporting(0, false);
+        server.link(3, 0, true);
+        server.pass(1);
+        CHECK.due("9: it waits without its trigger", toldWith(server, 0), "none");
+        CHECK.due("9: all that waited is told", toldWith(server, 0, 3), "003");
+        CHECK.due("19: nothing is left", server.waiting(0), 0);
+    }
+
+    private static void itemsOfAnEndedLife() {
+        PlantServer server = new PlantServer();
+        server.open(1, 1, 1, 0, 1);
+        server.add(0, 0, 1, 1, true, 0);
+        server.add(0, 0, 1, 1, true, 0);
+        server.pass(1);
+        CHECK.refuses("5: add", server, BOUNDS, () -> server.add(0, 0, 1, 1, true, 0));
+        CHECK.refuses("6: setReporting", server, BOUNDS, () -> server.setReporting(0, false));
+        CHECK.refuses("7: link", server, BOUNDS, () -> server.link(0, 1, true));
+        CHECK.refuses("20: queued", server, BOUNDS, () -> server.queued(1));
+        CHECK.refuses("21: queuedByHistory", server, BOUNDS, () -> server.queuedByHistory(1));
+        server.open(1, 1, 1, 0, 1);
+        CHECK.due("5: a gone one's number is not used again", server.add(1, 0, 1, 1, true, 0), 2);
+        CHECK.due("4: a gone one is not of the next", server.close(1), 1);
+    }
+
+    private static void linksOfGoneItems() {
+        PlantServer server = opened();
+        server.open(1, 10, 30, 0, 1);
+        server.add(0, 0, 1, 1, true, 0);
+        server.add(0, 0, 1, 1, true, 0);
+        server.add(1, 0, 1, 1, true, 0);
+        server.link(0, 1, true);
+        server.close(0);
+        CHECK.refuses("7: both are gone", server, BOUNDS, () -> server.link(0, 1, false));
+        CHECK.refuses("7: a gone one to itself", server, BOUNDS, () -> server.link(1, 1, true));
+        CHECK.refuses("7: from a gone one to an unlike one", server, BOUNDS, () -> server.link(0, 2, true));
+        CHECK.refuses("7: from an unlike one to a gone one", server, BOUNDS, () -> server.link(2, 0, true));
     }
 }

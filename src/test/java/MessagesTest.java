@@ -17,6 +17,13 @@ final class MessagesTest {
         messagesOfEachSubscription();
         noSuchSubscription();
         keepAlivesAreCounted();
+        justTheMost();
+        aMostOfOne();
+        leftInFullMessage();
+        placesOfASmallerMessage();
+        keepAlivesTakeNoPlace();
+        fiveOfEachSubscription();
+        acknowledgedAtBothEnds();
         CHECK.end();
     }
 
@@ -238,5 +245,107 @@ final class MessagesTest {
         server.request();
         CHECK.due("9: two more", server.pass(4), 2);
         CHECK.due("18: three", server.keepAlives(0), 3);
+    }
+
+    private static void justTheMost() {
+        PlantServer server = withItems(3, 3);
+        send(server);
+        CHECK.due("13: as many as the most", server.size(0, 1), 3);
+        CHECK.due("19: nothing is left", server.waiting(2), 0);
+        server.request();
+        CHECK.due("9: so the next publishing is idle", server.pass(1), 0);
+    }
+
+    private static void aMostOfOne() {
+        PlantServer server = withItems(2, 1);
+        server.write(0, 7);
+        send(server);
+        send(server);
+        send(server);
+        String all = values(server, 0, 1) + values(server, 0, 2) + values(server, 0, 3);
+        CHECK.due("9: one value in each message", all, "0:0 0:7 1:0 ");
+        CHECK.due("13: one", server.size(0, 3), 1);
+    }
+
+    private static void leftInFullMessage() {
+        PlantServer server = withItems(2, 1);
+        send(server);
+        CHECK.due("19: the second item was told, but there was no place", server.waiting(1), 1);
+        server.setReporting(1, false);
+        server.request();
+        CHECK.due("9: what is left of a silent one is not told", server.pass(1), 0);
+        server.setReporting(1, true);
+        CHECK.due("9: it is told when it reports", server.pass(1), 1);
+        CHECK.due("15: its value", values(server, 0, 2), "1:0 ");
+    }
+
+    private static void placesOfASmallerMessage() {
+        PlantServer server = withItems(3, 10);
+        send(server);
+        server.acknowledge(0, 1);
+        server.write(1, 5);
+        send(server);
+        CHECK.due("13: one value", values(server, 0, 2), "1:5 ");
+        CHECK.refuses("14: no place of an earlier one", server, ELEMENT, () -> server.valueAt(0, 2, 1));
+        CHECK.refuses("15: no place of an earlier one", server, ELEMENT, () -> server.itemAt(0, 2, 1));
+        CHECK.refuses("16: no place of an earlier one", server, ELEMENT, () -> server.isMarked(0, 2, 1));
+    }
+
+    private static void keepAlivesTakeNoPlace() {
+        PlantServer server = new PlantServer();
+        server.open(1, 1, 30, 0, 10);
+        server.add(0, 0, 1, 4, true, 0);
+        send(server);
+        for (int i = 2; i <= 5; i++) {
+            server.write(0, i);
+            send(server);
+        }
+        for (int i = 1; i <= 6; i++) {
+            send(server);
+            CHECK.due("18: keep-alives", server.keepAlives(0), i);
+        }
+        CHECK.due("13: five messages are kept", kept(server, 0, 12), "1 2 3 4 5 ");
+        server.write(0, 6);
+        send(server);
+        CHECK.due("17: keep-alives take no number", server.latest(0), 6);
+    }
+
+    private static void fiveOfEachSubscription() {
+        PlantServer server = new PlantServer();
+        for (int s = 0; s < 4; s++) {
+            server.open(1, 10, 30, 0, 10);
+            server.add(s, s, 1, 4, true, 0);
+        }
+        for (int i = 1; i <= 5; i++) {
+            for (int s = 0; s < 4; s++) {
+                server.write(s, 10 * i + s);
+                server.request();
+            }
+            CHECK.due("9: a message of each", server.pass(1), 4);
+        }
+        server.write(2, 62);
+        server.request();
+        CHECK.due("9: a sixth one of one of them", server.pass(1), 1);
+        for (int s = 0; s < 4; s++) {
+            CHECK.due("13: five are kept of each", kept(server, s, 9), s == 2 ? "2 3 4 5 6 " : "1 2 3 4 5 ");
+            CHECK.due("14: each has its own", server.valueAt(s, 5, 0), 50 + s);
+        }
+    }
+
+    private static void acknowledgedAtBothEnds() {
+        PlantServer server = withItems(1, 10);
+        for (int i = 1; i <= 5; i++) {
+            server.write(0, 10 * i);
+            send(server);
+        }
+        CHECK.due("12: the latest", server.acknowledge(0, 5), true);
+        CHECK.due("12: the first", server.acknowledge(0, 1), true);
+        CHECK.due("13: those between", kept(server, 0, 9), "2 3 4 ");
+        CHECK.due("17: the latest one's number stays", server.latest(0), 5);
+        for (int i = 6; i <= 8; i++) {
+            server.write(0, 10 * i);
+            send(server);
+        }
+        CHECK.due("13: five again", kept(server, 0, 9), "3 4 6 7 8 ");
     }
 }

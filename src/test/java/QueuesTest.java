@@ -16,6 +16,12 @@ final class QueuesTest {
         writesBetweenSamplesAreNotSeen();
         historyFromTheMiddle();
         noSuchItem();
+        eachSizeUntilItIsFull();
+        marksThatAreLeft();
+        theWidestBands();
+        theFirstIsQueued();
+        aTimeCountsFromTheAdding();
+        aGoneItemCountsNoMore();
         CHECK.end();
     }
 
@@ -40,13 +46,17 @@ final class QueuesTest {
     }
 
     private static String sent(PlantServer server) {
+        return sentOf(server, 0);
+    }
+
+    private static String sentOf(PlantServer server, int subscription) {
         server.request();
         server.pass(1);
-        int message = server.latest(0);
+        int message = server.latest(subscription);
         StringBuilder text = new StringBuilder();
-        for (int place = 0; place < server.size(0, message); place++) {
-            text.append(server.valueAt(0, message, place));
-            text.append(server.isMarked(0, message, place) ? "! " : " ");
+        for (int place = 0; place < server.size(subscription, message); place++) {
+            text.append(server.valueAt(subscription, message, place));
+            text.append(server.isMarked(subscription, message, place) ? "! " : " ");
         }
         return text.toString();
     }
@@ -224,5 +234,121 @@ final class QueuesTest {
             CHECK.refuses("20: of " + bad, server, BOUNDS, () -> server.queued(bad));
             CHECK.refuses("21: of " + bad, server, BOUNDS, () -> server.queuedByHistory(bad));
         }
+    }
+
+    private static void eachSizeUntilItIsFull() {
+        for (int size = 1; size <= 4; size++) {
+            for (int more = 0; more <= 5; more++) {
+                eachWayToDrop(size, more);
+            }
+        }
+    }
+
+    private static void eachWayToDrop(int size, int more) {
+        PlantServer server = opened();
+        server.add(0, 0, 1, size, true, 0);
+        server.add(0, 0, 1, size, false, 0);
+        int newest = size - 1 + more;
+        for (int value = 1; value <= newest; value++) {
+            samples(server, value);
+        }
+        StringBuilder due = new StringBuilder();
+        for (int value = more; value <= newest; value++) {
+            due.append(value).append(more > 0 && value == more ? "! " : " ");
+        }
+        for (int value = 0; value < size - 1; value++) {
+            due.append(value).append(' ');
+        }
+        due.append(newest).append(more > 0 ? "! " : " ");
+        String what = "size " + size + " and " + more + " more";
+        counts(what, server, 0, size, newest + 1);
+        counts(what, server, 1, size, newest + 1);
+        CHECK.due("14, 16: " + what, sent(server), due.toString());
+    }
+
+    /** One value a message, so that a part of the queue stays behind each. */
+    private static void marksThatAreLeft() {
+        PlantServer server = new PlantServer();
+        server.open(1, 10, 30, 0, 1);
+        server.add(0, 0, 1, 3, false, 0);
+        samples(server, 1, 2, 3);
+        CHECK.due("16: the first of the queue", sent(server), "0 ");
+        samples(server, 4);
+        counts("there is room for one", server, 0, 3, 5);
+        CHECK.due("16: the next", sent(server), "1 ");
+        CHECK.due("16: a mark stays with its sample", sent(server), "3! ");
+        CHECK.due("16: the one that found room has none", sent(server), "4 ");
+        server.close(0);
+        server.open(1, 10, 30, 0, 1);
+        server.add(1, 1, 1, 3, true, 0);
+        for (int value : new int[] {1, 2, 3, 4}) {
+            server.write(1, value);
+            server.pass(1);
+        }
+        CHECK.due("16: the first is marked", sentOf(server, 1), "2! ");
+        server.write(1, 5);
+        server.pass(1);
+        counts("there is room for one", server, 1, 3, 6);
+        CHECK.due("16: none was dropped since", sentOf(server, 1), "3 ");
+        CHECK.due("16: none was dropped since", sentOf(server, 1), "4 ");
+        CHECK.due("16: none was dropped since", sentOf(server, 1), "5 ");
+    }
+
+    private static void theWidestBands() {
+        PlantServer server = opened();
+        server.add(0, 0, 1, 4, true, 999);
+        server.add(0, 0, 1, 4, true, 1000);
+        samples(server, 999);
+        counts("just the band of 999", server, 0, 1, 1);
+        samples(server, 1000);
+        counts("more than the band of 999", server, 0, 2, 2);
+        samples(server, 1);
+        counts("just the band of 999, down", server, 0, 2, 2);
+        samples(server, 0);
+        counts("more than the band of 999, down", server, 0, 3, 3);
+        counts("nothing is more than the band of 1000", server, 1, 1, 1);
+    }
+
+    private static void theFirstIsQueued() {
+        PlantServer server = opened();
+        server.add(0, 0, 1, 1, true, 1000);
+        counts("a first one of 0, whatever the band", server, 0, 1, 1);
+        server.write(1, 1000);
+        server.add(0, 1, 20, 1, false, 1000);
+        counts("a first one of 1000, whatever the band", server, 1, 1, 1);
+        CHECK.due("16: neither is marked", sent(server), "0 1000 ");
+    }
+
+    private static void aTimeCountsFromTheAdding() {
+        for (int every = 1; every <= 20; every++) {
+            PlantServer server = new PlantServer();
+            server.open(20, 10, 30, 0, 10);
+            server.pass(7);
+            server.add(0, 0, every, 4, true, 0);
+            server.write(0, 1);
+            if (every > 1) {
+                server.pass(every - 1);
+                counts("before its time of " + every, server, 0, 1, 1);
+            }
+            server.pass(1);
+            counts("at its time of " + every, server, 0, 2, 2);
+            server.write(0, 2);
+            server.pass(every);
+            counts("and again", server, 0, 3, 3);
+        }
+    }
+
+    private static void aGoneItemCountsNoMore() {
+        PlantServer server = opened();
+        server.open(1, 10, 30, 0, 10);
+        server.add(0, 0, 1, 4, true, 0);
+        server.add(1, 0, 1, 4, true, 0);
+        samples(server, 1);
+        server.close(0);
+        samples(server, 2);
+        CHECK.refuses("19: gone", server, BOUNDS, () -> server.waiting(0));
+        CHECK.refuses("20: gone", server, BOUNDS, () -> server.queued(0));
+        CHECK.refuses("21: gone", server, BOUNDS, () -> server.queuedByHistory(0));
+        counts("the other one's", server, 1, 3, 3);
     }
 }

@@ -20,6 +20,16 @@ final class SubscriptionsTest {
         idleOnesDoNotEndTheLostRow();
         sendingEndsTheLostRow();
         priorities();
+        noFifthBehindOnesThatEnded();
+        lifeOfOne();
+        lifeEndsWithinOnePass();
+        aLostRowOfBothKinds();
+        idleNumbers();
+        aLostMessageStaysInTheQueues();
+        theLastRequestGoesToTheHigherPriority();
+        prioritiesAtBothEnds();
+        aTimeCountsFromTheOpening();
+        requestsOutliveASubscription();
         CHECK.end();
     }
 
@@ -260,5 +270,138 @@ final class SubscriptionsTest {
         for (int i = 0; i < 10; i++) {
             server.request();
         }
+    }
+
+    private static void noFifthBehindOnesThatEnded() {
+        PlantServer server = new PlantServer();
+        for (int s = 0; s < 4; s++) {
+            CHECK.due("3: opened", server.open(1, 1, 1, 0, 1), s);
+            server.pass(1);
+            CHECK.due("22: its life is over", server.isOpen(s), false);
+        }
+        CHECK.refuses("3: a fifth one, though no life lasts", server, STATE, () -> server.open(1, 1, 1, 0, 1));
+    }
+
+    private static void lifeOfOne() {
+        PlantServer server = new PlantServer();
+        server.open(1, 10, 1, 0, 1);
+        server.pass(9);
+        CHECK.due("22: nothing was due, nothing is lost", server.isOpen(0), true);
+        server.add(0, 0, 1, 1, true, 0);
+        CHECK.due("9: a message that is lost is not counted", server.pass(1), 0);
+        CHECK.due("22: the first lost message closes", server.isOpen(0), false);
+        CHECK.refuses("19: the item is gone", server, BOUNDS, () -> server.waiting(0));
+        server.open(1, 1, 1, 0, 1);
+        CHECK.due("9: a keep-alive that is lost is not counted", server.pass(1), 0);
+        CHECK.due("22: the first lost keep-alive closes", server.isOpen(1), false);
+    }
+
+    private static void lifeEndsWithinOnePass() {
+        PlantServer server = new PlantServer();
+        server.open(2, 1, 3, 0, 1);
+        server.open(7, 1, 30, 0, 1);
+        CHECK.due("9: nothing is sent", server.pass(50), 0);
+        CHECK.due("22: closed at the tick 6", server.isOpen(0), false);
+        CHECK.due("22: seven lost of 30", server.isOpen(1), true);
+        CHECK.due("11: all ticks pass", server.tick(), 50);
+    }
+
+    private static void aLostRowOfBothKinds() {
+        PlantServer server = new PlantServer();
+        server.open(1, 2, 3, 0, 1);
+        server.add(0, 0, 20, 1, true, 0);
+        server.pass(1);
+        server.setReporting(0, false);
+        server.pass(2);
+        CHECK.due("22: a message and a keep-alive are lost", server.isOpen(0), true);
+        server.setReporting(0, true);
+        server.pass(1);
+        CHECK.due("22: the third one in the row", server.isOpen(0), false);
+    }
+
+    private static void idleNumbers() {
+        for (int idle = 1; idle <= 10; idle++) {
+            PlantServer server = new PlantServer();
+            server.open(2, idle, 1, 0, 1);
+            fillRequests(server);
+            CHECK.due("9: one tick before, number " + idle, server.pass(2 * idle - 1), 0);
+            CHECK.due("9: as many as its number " + idle, server.pass(1), 1);
+            CHECK.due("9: anew, one tick before, number " + idle, server.pass(2 * idle - 1), 0);
+            CHECK.due("9: anew, number " + idle, server.pass(1), 1);
+            CHECK.due("18: number " + idle, server.keepAlives(0), 2);
+        }
+    }
+
+    private static void aLostMessageStaysInTheQueues() {
+        PlantServer server = new PlantServer();
+        server.open(1, 10, 30, 0, 10);
+        server.add(0, 0, 1, 4, true, 0);
+        server.write(0, 5);
+        server.pass(3);
+        CHECK.due("17: a lost message has no number", server.latest(0), 0);
+        CHECK.due("19: nothing is taken", server.waiting(0), 2);
+        server.request();
+        CHECK.due("9: it is sent later", server.pass(1), 1);
+        CHECK.due("17: with the number 1", server.latest(0), 1);
+        CHECK.due("13: with all", server.size(0, 1), 2);
+        CHECK.due("19: all is taken", server.waiting(0), 0);
+    }
+
+    private static void theLastRequestGoesToTheHigherPriority() {
+        PlantServer server = new PlantServer();
+        server.open(1, 1, 1, 4, 1);
+        server.open(1, 1, 1, 5, 1);
+        server.open(1, 1, 1, 5, 1);
+        server.request();
+        server.request();
+        CHECK.due("9: both requests are used", server.pass(1), 2);
+        CHECK.due("22: the lowest priority has none and is over", server.isOpen(0), false);
+        server.request();
+        CHECK.due("9: one request", server.pass(1), 1);
+        CHECK.due("22: of one priority the lower number has it", server.isOpen(1), true);
+        CHECK.due("22: the higher number is over", server.isOpen(2), false);
+        CHECK.due("18: the lower number had two", server.keepAlives(1), 2);
+    }
+
+    private static void prioritiesAtBothEnds() {
+        PlantServer server = new PlantServer();
+        server.open(1, 1, 30, 0, 1);
+        server.open(1, 1, 30, 9, 1);
+        server.open(1, 1, 30, 8, 1);
+        server.open(1, 1, 30, 1, 1);
+        int[] order = {1, 2, 3, 0};
+        for (int requests = 1; requests <= 4; requests++) {
+            for (int i = 0; i < requests; i++) {
+                server.request();
+            }
+            server.pass(1);
+            CHECK.due("9: the last one that is served", server.keepAlives(order[requests - 1]), 1);
+        }
+    }
+
+    private static void aTimeCountsFromTheOpening() {
+        for (int every = 1; every <= 20; every++) {
+            PlantServer server = new PlantServer();
+            fillRequests(server);
+            server.pass(7);
+            server.open(every, 1, 1, 0, 1);
+            if (every > 1) {
+                CHECK.due("9: before its time of " + every, server.pass(every - 1), 0);
+            }
+            CHECK.due("9: at its time of " + every, server.pass(1), 1);
+            CHECK.due("9: and again", server.pass(2 * every), 2);
+        }
+    }
+
+    private static void requestsOutliveASubscription() {
+        PlantServer server = new PlantServer();
+        server.open(1, 1, 1, 0, 1);
+        fillRequests(server);
+        server.close(0);
+        CHECK.due("10: they wait for all subscriptions", server.requests(), 10);
+        CHECK.refuses("8: they are still ten", server, STATE, server::request);
+        server.open(1, 1, 1, 0, 1);
+        CHECK.due("9: another one uses them", server.pass(4), 4);
+        CHECK.due("10: six are left", server.requests(), 6);
     }
 }

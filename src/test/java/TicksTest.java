@@ -11,6 +11,8 @@ final class TicksTest {
         fiveThousandTicks();
         whatAPassTells();
         samplesComeBeforePublishings();
+        fiveThousandInWholeSteps();
+        oneRequestForTwo();
         CHECK.end();
     }
 
@@ -92,5 +94,30 @@ final class TicksTest {
         CHECK.due("9: a message", server.pass(3), 1);
         CHECK.due("13: the sample of the same tick is in it", server.size(0, 1), 2);
         CHECK.due("14: the sample of the same tick is in it", server.valueAt(0, 1, 1), 9);
+    }
+
+    private static void fiveThousandInWholeSteps() {
+        PlantServer server = new PlantServer();
+        server.open(20, 10, 30, 0, 1);
+        for (int i = 1; i <= 100; i++) {
+            server.pass(50);
+            CHECK.due("11: each is counted", server.tick(), 50 * i);
+        }
+        CHECK.refuses("9: none is left", server, STATE, () -> server.pass(1));
+        CHECK.refuses("9: none is left", server, STATE, () -> server.pass(50));
+        CHECK.due("8: the other calls go on", server.request(), 1);
+        CHECK.due("2: the other calls go on", server.write(0, 1), 0);
+    }
+
+    private static void oneRequestForTwo() {
+        PlantServer server = new PlantServer();
+        server.open(1, 1, 30, 0, 1);
+        server.open(1, 1, 30, 0, 1);
+        server.request();
+        CHECK.due("9: one request, one keep-alive", server.pass(1), 1);
+        CHECK.due("10: none waits", server.requests(), 0);
+        CHECK.due("9: none waits, none is sent", server.pass(1), 0);
+        CHECK.due("10: a row that is empty stays so", server.requests(), 0);
+        CHECK.due("8: the next one is the first again", server.request(), 1);
     }
 }
